@@ -1,0 +1,170 @@
+/** Promises 30 to 32. */
+public final class FibresTest {
+    public static void main(String[] args) {
+        promise30Fibre();
+        promise31LoadEvenly();
+        promise31LoadByNeighbours();
+        promise32LastStraw();
+        Due.end();
+    }
+
+    private static Seepwork withStrengths(int... strengths) {
+        Seepwork x = new Seepwork();
+        for (int fibre = 0; fibre < 12; fibre++) {
+            x.fibre(fibre, strengths[fibre % strengths.length]);
+        }
+        return x;
+    }
+
+    private static void promise30Fibre() {
+        Seepwork x = new Seepwork();
+        for (int fibre = 0; fibre < 12; fibre++) {
+            Due.is("fibre(" + fibre + ", ..)", x.fibre(fibre, 500 + fibre), 100);
+        }
+        for (int fibre = 0; fibre < 12; fibre++) {
+            Due.is("fibre(" + fibre + ", 1000)", x.fibre(fibre, 1000), 500 + fibre);
+        }
+        Due.is("fibre(0, 1)", x.fibre(0, 1), 1000);
+        Due.is("fibre(0, 1)", x.fibre(0, 1), 1);
+        Due.noSuch(x, "fibre(-1, 1)", () -> x.fibre(-1, 1));
+        Due.noSuch(x, "fibre(12, 1)", () -> x.fibre(12, 1));
+        Due.noSuch(x, "fibre(12, 0)", () -> x.fibre(12, 0));
+        Due.outOfRange(x, "fibre(0, 0)", () -> x.fibre(0, 0));
+        Due.outOfRange(x, "fibre(0, 1001)", () -> x.fibre(0, 1001));
+    }
+
+    private static void promise31LoadEvenly() {
+        Seepwork x = new Seepwork();
+        Due.is("load(0, false)", x.load(0, false), 0);
+        Due.is("load(1211, false)", x.load(1211, false), 0);
+        Due.is("load(1212, false)", x.load(1212, false), 12);
+        Due.is("load(20000, false)", x.load(20000, false), 12);
+        // By 24 each bears 2, so one breaks; 11 bear 2 each, and the rest holds.
+        Seepwork y = withStrengths(1, 50, 50, 50, 50, 50, 50, 50, 50, 50, 50, 50);
+        Due.is("load(23, false)", y.load(23, false), 0);
+        Due.is("load(24, false)", y.load(24, false), 1);
+        Due.is("load(560, false)", y.load(560, false), 1);
+        Due.is("load(561, false)", y.load(561, false), 12);
+        // 6 at 10, 6 at 30: 132 break the weak ones; 6 bear 31 by 186.
+        Seepwork z = withStrengths(10, 30);
+        Due.is("load(131, false)", z.load(131, false), 0);
+        Due.is("load(132, false)", z.load(132, false), 6);
+        Due.is("load(185, false)", z.load(185, false), 6);
+        Due.is("load(186, false)", z.load(186, false), 12);
+        Due.is("load(186, false) again", z.load(186, false), 12);
+        Due.is("fibre(0, 10), as a trial changes nothing", z.fibre(0, 10), 10);
+        Due.outOfRange(x, "load(-1, false)", () -> x.load(-1, false));
+        Due.outOfRange(x, "load(20001, false)", () -> x.load(20001, false));
+        Due.outOfRange(x, "load(20001, true)", () -> x.load(20001, true));
+        Due.outOfRange(x, "load(-1, true)", () -> x.load(-1, true));
+    }
+
+    private static void promise31LoadByNeighbours() {
+        Seepwork x = new Seepwork();
+        Due.is("load(0, true)", x.load(0, true), 0);
+        Due.is("load(1211, true)", x.load(1211, true), 0);
+        Due.is("load(1212, true)", x.load(1212, true), 12);
+        // Each bears 7; FIBRE 0 breaks, 3 go to 11, and 4 to 1.
+        Seepwork y = withStrengths(6, 11, 99, 99, 99, 99, 99, 99, 99, 99, 99, 10);
+        Due.is("load(84, true), both hold", y.load(84, true), 1);
+        Due.is("load(95, true), as what is left over is borne by none", y.load(95, true), 1);
+        y.fibre(1, 10);
+        // 1 breaks by 11: 5 go to 11 past 0, which bears 15 then, and 6 go to 2.
+        y.fibre(11, 15);
+        Due.is("load(84, true), 11 holds 15", y.load(84, true), 2);
+        y.fibre(11, 14);
+        Due.is("load(84, true), 11 breaks by 15", y.load(84, true), 3);
+        // The 15 make 7 for 10, and 8 for 2 past 0 and 1, which bears 7 and 6 and 8 then.
+        y.fibre(2, 21);
+        Due.is("load(84, true), 2 holds 21", y.load(84, true), 3);
+        y.fibre(2, 20);
+        Due.is("load(84, true), 2 breaks by 21", y.load(84, true), 4);
+        // Together: 5 and 6 bear 3 each; 4 gets 1 and 1, 7 gets 2 and 2.
+        Seepwork z = withStrengths(99, 99, 99, 99, 99, 2, 2, 99, 99, 99, 99, 99);
+        Due.is("load(36, true)", z.load(36, true), 2);
+        z.fibre(7, 7);
+        z.fibre(4, 5);
+        Due.is("load(36, true), both hold", z.load(36, true), 2);
+        z.fibre(4, 99);
+        z.fibre(7, 6);
+        Due.is("load(36, true), 7 breaks by 7", z.load(36, true), 3);
+        z.fibre(7, 99);
+        z.fibre(4, 4);
+        Due.is("load(36, true), 4 breaks by 5", z.load(36, true), 3);
+        oneTakesAll();
+    }
+
+    /** All but FIBRE 3 break at once by 5 each; it gets both halves of all 11, and bears 60. */
+    private static void oneTakesAll() {
+        Seepwork x = withStrengths(4, 4, 4, 60, 4, 4, 4, 4, 4, 4, 4, 4);
+        Due.is("load(60, true)", x.load(60, true), 11);
+        x.fibre(3, 59);
+        Due.is("load(60, true)", x.load(60, true), 12);
+        Due.is("load(60, false)", x.load(60, false), 12);
+        x.fibre(3, 60);
+        Due.is("load(60, false)", x.load(60, false), 11);
+    }
+
+    private static void lastStrawIs(Seepwork x, boolean isLocal) {
+        int load = 0;
+        while (x.load(load, isLocal) != 12) {
+            load++;
+        }
+        Due.is("lastStraw(" + isLocal + ")", x.lastStraw(isLocal), load - 1);
+    }
+
+    private static void promise32LastStraw() {
+        Seepwork x = new Seepwork();
+        Due.is("lastStraw(false)", x.lastStraw(false), 1211);
+        Due.is("lastStraw(true)", x.lastStraw(true), 1211);
+        Seepwork weak = withStrengths(1);
+        Due.is("lastStraw(false)", weak.lastStraw(false), 23);
+        Due.is("lastStraw(true)", weak.lastStraw(true), 23);
+        Seepwork strong = withStrengths(1000);
+        Due.is("lastStraw(false)", strong.lastStraw(false), 12011);
+        Due.is("lastStraw(true)", strong.lastStraw(true), 12011);
+        Seepwork one = withStrengths(1, 1, 1, 1, 1, 1, 1, 1, 1, 1, 1, 1000);
+        Due.is("lastStraw(false)", one.lastStraw(false), 1000);
+        // By q each 11 q go to the last one, which bears 12 q then: 84 each make 1008.
+        Due.is("lastStraw(true)", one.lastStraw(true), 84 * 12 - 1);
+        lastStrawIs(one, false);
+        lastStrawIs(one, true);
+        long z = 4711;
+        for (int i = 0; i < 60; i++) {
+            Seepwork y = new Seepwork();
+            for (int fibre = 0; fibre < 12; fibre++) {
+                z = (25173L * z + 13849L) % 65536L;
+                y.fibre(fibre, 1 + (int) (z % (i < 30 ? 60L : 1000L)));
+            }
+            String before = Due.stateOf(y);
+            lastStrawIs(y, false);
+            lastStrawIs(y, true);
+            Due.isText("the state behind lastStraw()", Due.stateOf(y), before);
+        }
+        aGreaterLoadMayBreakFewer();
+    }
+
+    /** The least load of all counts, though some greater ones leave FIBRES whole: such a ring is searched for. */
+    private static void aGreaterLoadMayBreakFewer() {
+        long z = 1;
+        int found = 0;
+        for (int i = 0; i < 3000 && found < 3; i++) {
+            Seepwork x = new Seepwork();
+            for (int fibre = 0; fibre < 12; fibre++) {
+                z = (25173L * z + 13849L) % 65536L;
+                x.fibre(fibre, 1 + (int) (z / 64L % 40L));
+            }
+            int fatal = x.lastStraw(true) + 1;
+            Due.is("load() just below", x.load(Math.max(0, fatal - 1), true) < 12, true);
+            boolean isDip = false;
+            for (int load = fatal; load <= 41 * 12; load += 12) {
+                isDip |= x.load(load, true) < 12;
+            }
+            if (isDip) {
+                found++;
+                lastStrawIs(x, true);
+            }
+        }
+        Due.is("rings in which a greater load breaks fewer are there", found > 0, true);
+    }
+}

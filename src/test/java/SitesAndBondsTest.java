@@ -1,0 +1,231 @@
+/** Promises 1 to 7. */
+public final class SitesAndBondsTest {
+    public static void main(String[] args) {
+        promise1NewObject();
+        promise2Seed();
+        promise3Bond();
+        promise4Site();
+        promise5NumberOf();
+        promise6Shut();
+        promise7Strike();
+        Due.end();
+    }
+
+    private static void promise1NewObject() {
+        Seepwork x = new Seepwork();
+        for (int bond = 0; bond < 60; bond++) {
+            Due.is("numberOf(BOTH, " + bond + ")", x.numberOf(Seepwork.BOTH, bond), 0);
+        }
+        for (int site = 0; site < 36; site++) {
+            Due.is("site(" + site + ", 0)", x.site(site, 0), 0);
+            Due.is("wet(" + site + ", false)", x.wet(site, false), false);
+            Due.is("lightning(" + site + ")", x.lightning(site), 0);
+            Due.is("shut(" + site + ", false)", x.shut(site, false), false);
+        }
+        for (int what = 0; what <= 4; what++) {
+            Due.is("count(" + what + ")", x.count(what), 0);
+        }
+        for (int fibre = 0; fibre < 12; fibre++) {
+            Due.is("fibre(" + fibre + ", 100)", x.fibre(fibre, 100), 100);
+        }
+        Due.is("trapped(true)", x.trapped(true), 0);
+        Due.is("trapped(false)", x.trapped(false), 0);
+        Due.is("wipe()", x.wipe(), 0);
+        Due.is("grow(1)", x.grow(1), 1);
+        Due.is("lightning(25)", x.lightning(25), 1);
+        x.shut(3, true);
+        x.seed(5);
+        Due.is("numberOf() of another object", new Seepwork().numberOf(Seepwork.BOTH, 3), 0);
+        Due.is("count(0) of another object", new Seepwork().count(0), 0);
+    }
+
+    private static void promise2Seed() {
+        for (int seed : new int[] {0, 1, 777, 65535}) {
+            Seepwork x = new Seepwork();
+            x.bond(0, 998);
+            x.seed(seed);
+            long z = seed;
+            for (int bond = 0; bond < 60; bond++) {
+                z = (25173L * z + 13849L) % 65536L;
+                Due.is("bond " + bond + " by seed " + seed, x.numberOf(Seepwork.BONDS, bond), z % 1000L);
+            }
+            for (int site = 0; site < 36; site++) {
+                z = (25173L * z + 13849L) % 65536L;
+                Due.is("site " + site + " by seed " + seed, x.site(site, 0), z % 1000L);
+            }
+        }
+        Seepwork x = new Seepwork();
+        x.seed(0);
+        Due.is("bond(0, 0)", x.bond(0, 0), 849);
+        Due.is("bond(1, 0)", x.bond(1, 0), 742);
+        x.seed(0);
+        Due.is("bond(0, 0) by the same seed again", x.bond(0, 0), 849);
+        Due.outOfRange(x, "seed(-1)", () -> x.seed(-1));
+        Due.outOfRange(x, "seed(65536)", () -> x.seed(65536));
+        Due.outOfRange(x, "seed(MIN_VALUE)", () -> x.seed(Integer.MIN_VALUE));
+        theRestStaysBySeed();
+    }
+
+    private static void theRestStaysBySeed() {
+        Seepwork x = new Seepwork();
+        x.shut(0, true);
+        x.wet(1, true);
+        x.grow(1);
+        x.fibre(2, 7);
+        x.drain(1);
+        int oil = x.count(3);
+        x.type('a');
+        x.seed(9);
+        Due.is("count(0)", x.count(0), 1);
+        Due.is("count(1)", x.count(1), 1);
+        Due.is("count(2)", x.count(2), 1);
+        Due.is("count(3)", x.count(3), oil);
+        Due.is("count(4)", x.count(4), 1);
+        Due.is("fibre(2, 7)", x.fibre(2, 7), 7);
+        // The draws of the TREES go on: the second one stands on 34.
+        x.grow(1);
+        Due.is("lightning(34)", x.lightning(34), 1);
+    }
+
+    private static void promise3Bond() {
+        Seepwork x = new Seepwork();
+        for (int bond = 0; bond < 60; bond++) {
+            Due.is("bond(" + bond + ", ..)", x.bond(bond, 900 + bond), 0);
+        }
+        for (int bond = 0; bond < 60; bond++) {
+            Due.is("bond(" + bond + ", 1)", x.bond(bond, 1), 900 + bond);
+        }
+        Due.is("bond(0, 999)", x.bond(0, 999), 1);
+        Due.is("bond(0, 0)", x.bond(0, 0), 999);
+        Due.noSuch(x, "bond(-1, 0)", () -> x.bond(-1, 0));
+        Due.noSuch(x, "bond(60, 0)", () -> x.bond(60, 0));
+        Due.noSuch(x, "bond(60, 1000)", () -> x.bond(60, 1000));
+        Due.outOfRange(x, "bond(3, -1)", () -> x.bond(3, -1));
+        Due.outOfRange(x, "bond(3, 1000)", () -> x.bond(3, 1000));
+        for (int site = 0; site < 36; site++) {
+            Due.is("site(" + site + ", 0)", x.site(site, 0), 0);
+        }
+    }
+
+    private static void promise4Site() {
+        Seepwork x = new Seepwork();
+        for (int site = 0; site < 36; site++) {
+            Due.is("site(" + site + ", ..)", x.site(site, 900 + site), 0);
+        }
+        for (int site = 0; site < 36; site++) {
+            Due.is("site(" + site + ", 1)", x.site(site, 1), 900 + site);
+        }
+        Due.is("site(35, 999)", x.site(35, 999), 1);
+        Due.is("site(35, 0)", x.site(35, 0), 999);
+        x.shut(4, true);
+        Due.is("site(4, 2) of a SHUT one", x.site(4, 2), 1);
+        Due.noSuch(x, "site(-1, 0)", () -> x.site(-1, 0));
+        Due.noSuch(x, "site(36, 0)", () -> x.site(36, 0));
+        Due.noSuch(x, "site(36, -1)", () -> x.site(36, -1));
+        Due.outOfRange(x, "site(3, -1)", () -> x.site(3, -1));
+        Due.outOfRange(x, "site(3, 1000)", () -> x.site(3, 1000));
+        for (int bond = 0; bond < 60; bond++) {
+            Due.is("bond(" + bond + ", 0)", x.bond(bond, 0), 0);
+        }
+    }
+
+    private static void promise5NumberOf() {
+        Seepwork x = new Seepwork();
+        for (int site = 0; site < 36; site++) {
+            x.site(site, 100 + site);
+        }
+        for (int row = 0; row < 6; row++) {
+            for (int column = 0; column < 5; column++) {
+                int bond = 5 * row + column;
+                Due.is("numberOf(SITES, " + bond + ")", x.numberOf(1, bond), 100 + 6 * row + column + 1);
+            }
+        }
+        for (int row = 0; row < 5; row++) {
+            for (int column = 0; column < 6; column++) {
+                int bond = 30 + 6 * row + column;
+                Due.is("numberOf(SITES, " + bond + ")", x.numberOf(1, bond), 100 + 6 * (row + 1) + column);
+            }
+        }
+        x.site(0, 500);
+        Due.is("numberOf(SITES, 0), the lower one greater", x.numberOf(1, 0), 500);
+        Due.is("numberOf(SITES, 30), the lower one greater", x.numberOf(1, 30), 500);
+        Due.is("numberOf(BONDS, 0)", x.numberOf(0, 0), 0);
+        x.bond(0, 499);
+        Due.is("numberOf(BONDS, 0)", x.numberOf(0, 0), 499);
+        Due.is("numberOf(BOTH, 0)", x.numberOf(2, 0), 500);
+        x.bond(0, 501);
+        Due.is("numberOf(BOTH, 0)", x.numberOf(2, 0), 501);
+        Due.is("numberOf(SITES, 0)", x.numberOf(1, 0), 500);
+        x.shut(0, true);
+        Due.is("numberOf(BOTH, 0) with a SHUT one", x.numberOf(2, 0), 501);
+        Due.noSuch(x, "numberOf(0, -1)", () -> x.numberOf(0, -1));
+        Due.noSuch(x, "numberOf(0, 60)", () -> x.numberOf(0, 60));
+        Due.noSuch(x, "numberOf(3, 60)", () -> x.numberOf(3, 60));
+        Due.outOfRange(x, "numberOf(-1, 0)", () -> x.numberOf(-1, 0));
+        Due.outOfRange(x, "numberOf(3, 0)", () -> x.numberOf(3, 0));
+    }
+
+    private static void promise6Shut() {
+        Seepwork x = new Seepwork();
+        Due.is("shut(0, false)", x.shut(0, false), false);
+        Due.is("shut(0, true)", x.shut(0, true), false);
+        Due.is("shut(0, true)", x.shut(0, true), true);
+        Due.is("count(0)", x.count(0), 1);
+        Due.is("shut(0, false)", x.shut(0, false), true);
+        Due.is("count(0)", x.count(0), 0);
+        x.grow(1);
+        x.wet(25, true);
+        x.site(24, 3);
+        x.site(25, 3);
+        for (int site = 0; site < 36; site++) {
+            x.site(site, site == 24 || site == 25 ? 3 : 9);
+        }
+        Due.is("drain(5)", x.drain(5), 2);
+        Due.is("shut(25, true)", x.shut(25, true), false);
+        Due.is("count(1) behind shut(25, true)", x.count(1), 0);
+        Due.is("count(2) behind shut(25, true)", x.count(2), 0);
+        Due.is("count(3) behind shut(25, true)", x.count(3), 1);
+        Due.is("shut(25, false)", x.shut(25, false), true);
+        Due.is("count(1) behind shut(25, false)", x.count(1), 0);
+        Due.is("count(2) behind shut(25, false)", x.count(2), 0);
+        Due.is("count(3) behind shut(25, false)", x.count(3), 1);
+        Due.is("count(0)", x.count(0), 0);
+        x.wet(25, true);
+        x.shut(25, false);
+        Due.is("count(2) behind another shut(25, false)", x.count(2), 1);
+        Due.is("shut(35, true)", x.shut(35, true), false);
+        Due.noSuch(x, "shut(-1, true)", () -> x.shut(-1, true));
+        Due.noSuch(x, "shut(36, false)", () -> x.shut(36, false));
+    }
+
+    private static void promise7Strike() {
+        Seepwork x = new Seepwork();
+        Due.is("strike(0)", x.strike(0), 0);
+        x.wet(7, true);
+        Due.is("strike(1)", x.strike(1), 1);
+        Due.is("shut(7, true)", x.shut(7, true), true);
+        Due.is("count(2)", x.count(2), 0);
+        Due.is("strike(1)", x.strike(1), 2);
+        Due.is("shut(9, true)", x.shut(9, true), true);
+        Due.is("strike(2)", x.strike(2), 4);
+        Due.is("shut(14, true)", x.shut(14, true), true);
+        Due.is("shut(16, true)", x.shut(16, true), true);
+        Due.is("strike(0)", x.strike(0), 4);
+        Due.is("strike(36)", x.strike(36), 36);
+        Due.is("strike(36)", x.strike(36), 36);
+        x.shut(20, false);
+        Due.is("strike(1), at one alone", x.strike(1), 36);
+        Due.is("shut(20, true)", x.shut(20, true), true);
+        // Of those that have none beside them, the lowest one goes first.
+        Seepwork y = new Seepwork();
+        for (int site = 0; site < 36; site++) {
+            y.shut(site, site != 2 && site != 13 && site != 35);
+        }
+        Due.is("strike(1) at lone ones", y.strike(1), 34);
+        Due.is("shut(2, true)", y.shut(2, true), true);
+        Due.is("strike(1) at lone ones", y.strike(1), 35);
+        Due.is("shut(35, true)", y.shut(35, true), false);
+        Due.outOfRange(x, "strike(-1)", () -> x.strike(-1));
+        Due.outOfRange(x, "strike(37)", () -> x.strike(37));
+    }
+}
