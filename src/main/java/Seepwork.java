@@ -236,7 +236,8 @@ public final class Seepwork {
      */
     public int cut(int kind, int p) throws IllegalArgumentException {
         openAt(kind, p);
-        return flow.leastCut(openings);
+        flow.mostWays(openings);
+        return flow.countCut(openings);
     }
 
     /**
@@ -271,7 +272,8 @@ public final class Seepwork {
      * @param h 1 to 4 rows
      * @param k 0 to all of its BONDS
      * @return how many
-     * @throws IllegalArgumentException if w or h is out of range, the BLOCK has more than 12 BONDS, or k is out of range
+     * @throws IllegalArgumentException if w or h is out of range, the BLOCK has more than 12 BONDS, or k is out of
+     *         range
      */
     public int polynomial(int w, int h, int k) throws IllegalArgumentException {
         layBlockOfFewBonds(w, h);
@@ -285,7 +287,8 @@ public final class Seepwork {
      * @param h 1 to 4 rows
      * @param a 0 to 10 tenths
      * @return the chance, times 10 to the power of how many BONDS there are
-     * @throws IllegalArgumentException if w or h is out of range, the BLOCK has more than 12 BONDS, or a is out of range
+     * @throws IllegalArgumentException if w or h is out of range, the BLOCK has more than 12 BONDS, or a is out of
+     *         range
      */
     public long chance(int w, int h, int a) throws IllegalArgumentException {
         layBlockOfFewBonds(w, h);
@@ -303,7 +306,8 @@ public final class Seepwork {
      * @param h 1 to 4 rows
      * @param k 0 to all of its BONDS
      * @return how many
-     * @throws IllegalArgumentException if w or h is out of range, the BLOCK has more than 12 BONDS, or k is out of range
+     * @throws IllegalArgumentException if w or h is out of range, the BLOCK has more than 12 BONDS, or k is out of
+     *         range
      */
     public int pivots(int w, int h, int k) throws IllegalArgumentException {
         layBlockOfFewBonds(w, h);
@@ -784,8 +788,8 @@ public final class Seepwork {
 
     /** The BOND that joins two SITES, which must be beside one another. */
     private static int bondBetween(int one, int other) {
-        int low = Math.min(one, other);
-        boolean isUpright = Math.max(one, other) - low == SIDE;
+        int low = one < other ? one : other;
+        boolean isUpright = one + other == 2 * low + SIDE;
         return isUpright ? FIRST_UPRIGHT_BOND + low : (SIDE - 1) * (low / SIDE) + low % SIDE;
     }
 
@@ -882,7 +886,8 @@ public final class Seepwork {
         }
 
         int leastSteps(int fromSide, int toSide) {
-            walkFromSide(fromSide);
+            startAtSide(fromSide);
+            walkOn();
             int least = NONE;
             for (int site = 0; site < SITE_COUNT; site++) {
                 boolean isEnd = isOnSide(site, toSide) && steps[site] != NONE;
@@ -938,7 +943,7 @@ public final class Seepwork {
             return red;
         }
 
-        private void walkFromSide(int side) {
+        private void startAtSide(int side) {
             Arrays.fill(steps, NONE);
             queue.forget();
             for (int site = 0; site < SITE_COUNT; site++) {
@@ -947,7 +952,6 @@ public final class Seepwork {
                     queue.add(site);
                 }
             }
-            walkOn();
         }
 
         /** Walks over all that is joined to a SITE, and returns how many SITES that are. */
@@ -998,9 +1002,8 @@ public final class Seepwork {
             return ways;
         }
 
-        /** The last search, which finds no way, leaves the SITES ahead of the cut reached. */
-        int leastCut(Openings openings) {
-            mostWays(openings);
+        /** The last search for a way, which found none, has left the SITES ahead of the cut reached. */
+        int countCut(Openings openings) {
             int lost = 0;
             for (int bond = 0; bond < BOND_COUNT; bond++) {
                 if (openings.openBonds[bond] && reached[lowEnd(bond)] != reached[highEnd(bond)]) {
@@ -1040,7 +1043,7 @@ public final class Seepwork {
             }
         }
 
-        /** A BOND that a way uses in the other direction is free too: each of both then goes on as the other one did. */
+        /** A BOND that a way uses in the other direction is free too: each of both goes on as the other one did. */
         private boolean isFree(Openings openings, int from, int to) {
             int bond = bondBetween(from, to);
             boolean isUsed = from < to ? flow[bond] > 0 : flow[bond] < 0;
@@ -1062,7 +1065,7 @@ public final class Seepwork {
         }
     }
 
-    /** What it costs at least to come to each SITE: the nearest one is settled first, and offers what lies beside it. */
+    /** What it costs at least to come to each SITE: the nearest is settled first, and offers what lies beside it. */
     private static final class Floods {
         private final int[] cost = new int[SITE_COUNT];
         private final boolean[] settled = new boolean[SITE_COUNT];

