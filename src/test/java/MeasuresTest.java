@@ -18,11 +18,7 @@ public final class MeasuresTest {
         Due.is("scale(0, 50)", x.scale(0, 50), 0);
         Due.is("scale(1000, 50)", x.scale(1000, 50), 1000);
         for (int p = 0; p <= 1000; p++) {
-            long q = 1000 - p;
-            long squared = (long) p * p;
-            long due = (squared * squared + 4 * squared * p * q + 2 * squared * q * q) / 1000000000L;
-            Due.is("scale(" + p + ", 1)", x.scale(p, 1), due);
-            Due.is("scale(" + p + ", 3)", x.scale(p, 3), x.scale(x.scale(x.scale(p, 1), 1), 1));
+            stepsAreRight(p);
         }
         int[][] wrong = {{-1, 0}, {1001, 0}, {0, -1}, {0, 51}};
         for (int[] pair : wrong) {
@@ -30,26 +26,44 @@ public final class MeasuresTest {
         }
     }
 
-    private static void promise37Estimate() {
+    private static void stepsAreRight(int p) {
         Seepwork x = new Seepwork();
-        Seepwork drawn = new Seepwork();
+        long due = p;
+        Due.is("scale(" + p + ", 0)", x.scale(p, 0), due);
+        for (int n = 1; n <= 50; n++) {
+            long q = 1000 - due;
+            long squared = due * due;
+            due = (squared * squared + 4 * squared * due * q + 2 * squared * q * q) / 1000000000L;
+            Due.is("scale(" + p + ", " + n + ")", x.scale(p, n), due);
+        }
+    }
+
+    private static Seepwork withSomeShut() {
+        Seepwork x = new Seepwork();
         x.seed(77);
         for (int site : new int[] {8, 9, 26}) {
             x.shut(site, true);
-            drawn.shut(site, true);
         }
-        String before = Due.stateOf(x);
+        return x;
+    }
+
+    private static void promise37Estimate() {
+        String before = Probe.of(withSomeShut());
         for (int kind = 0; kind <= 2; kind++) {
+            Seepwork x = withSomeShut();
+            Seepwork drawn = withSomeShut();
             for (int p : new int[] {0, 450, 550, 650, 750, 1000}) {
                 int due = 0;
                 for (int n = 1; n <= 30; n++) {
                     drawn.seed(n);
                     due += drawn.spans(kind, p, false) ? 1 : 0;
-                    Due.is("estimate(" + kind + ", " + p + ", " + n + ")", x.estimate(kind, p, n), due);
+                    boolean isAsked = n <= 5 || n % 5 == 0;
+                    Due.is("estimate(" + kind + ", " + p + ", " + n + ")", isAsked ? x.estimate(kind, p, n) : due, due);
                 }
             }
+            Due.isText("the state behind estimate()", Probe.of(x), before);
         }
-        Due.isText("the state behind estimate()", Due.stateOf(x), before);
+        Seepwork x = withSomeShut();
         Due.is("estimate(BONDS, 1000, 30)", new Seepwork().estimate(0, 1000, 30), 30);
         int[][] wrong = {{-1, 5, 5}, {3, 5, 5}, {0, -1, 5}, {0, 1001, 5}, {0, 5, 0}, {0, 5, 31}};
         for (int[] three : wrong) {
@@ -78,9 +92,7 @@ public final class MeasuresTest {
 
     private static void typeName(Seepwork x, String name) {
         x.wipe();
-        for (char letter : name.toCharArray()) {
-            x.type(letter);
-        }
+        Start.typeName(x, name);
     }
 
     private static void measureIs(Seepwork x, String name, int kind, int p, int due) {
@@ -90,11 +102,11 @@ public final class MeasuresTest {
     }
 
     private static void promise40Measure() {
-        Seepwork x = new Seepwork();
-        x.seed(8);
-        x.shut(20, true);
         for (int kind = 0; kind <= 2; kind++) {
             for (int p = 0; p <= 1000; p += 125) {
+                Seepwork x = new Seepwork();
+                x.seed(8);
+                x.shut(20, true);
                 measureIs(x, "many", kind, p, x.sizes(kind, p, 0));
                 measureIs(x, "size", kind, p, x.sizes(kind, p, 1));
                 measureIs(x, "span", kind, p, x.spans(kind, p, false) ? 1 : 0);
@@ -103,6 +115,7 @@ public final class MeasuresTest {
                 measureIs(x, "way", kind, p, x.shortest(kind, p));
             }
         }
+        Seepwork x = new Seepwork();
         for (String name : new String[] {"", "man", "manyy", "ways", "wa", "spans", "sizes", "cuts", "dcut", "er"}) {
             typeName(x, name);
             Due.badState(x, "measure(0, 0) " + name, () -> x.measure(0, 0));

@@ -7,6 +7,8 @@ import java.util.Random;
 public final class ModelTest {
     private static final int RUNS = 20;
     private static final int CALLS = 512;
+    // A NAME is wiped, typed and measured by so many calls at most.
+    private static final int MOST_CALLS_AT_ONCE = 6;
     private static final int KINDS_OF_CALLS = 37;
     private static final String[] NAMES = {"many", "size", "span", "cut", "red", "way", "x"};
 
@@ -15,6 +17,7 @@ public final class ModelTest {
     private final Model model = new Model();
     private final int evenness;
     private StringBuilder call;
+    private int calls;
 
     private interface Asked {
         long answer();
@@ -30,7 +33,7 @@ public final class ModelTest {
         int runs = args.length == 1 ? Integer.parseInt(args[0]) : RUNS;
         for (int run = 0; run < runs; run++) {
             ModelTest test = new ModelTest(run);
-            for (int i = 0; i < CALLS; i++) {
+            while (test.calls + MOST_CALLS_AT_ONCE <= CALLS) {
                 test.askOnce(run);
             }
         }
@@ -52,6 +55,7 @@ public final class ModelTest {
     }
 
     private void compare(Asked got, Asked due) {
+        calls++;
         String answered = answerOf(got);
         String wanted = answerOf(due);
         if (!answered.equals(wanted)) {

