@@ -5,6 +5,8 @@ final class Due {
     }
 
     private static int wrong = 0;
+    // What is being tested, if that is told.
+    private static String place = "";
 
     private Due() {
     }
@@ -71,8 +73,13 @@ final class Due {
         }
     }
 
+    /** From now on the messages begin so. */
+    static void at(String told) {
+        place = told;
+    }
+
     static void tell(String message) {
         wrong++;
-        System.out.println(message);
+        System.out.println(place + message);
     }
 }

@@ -1,4 +1,5 @@
 import java.util.Arrays;
+import java.util.Random;
 
 /** Promises 30 to 32. */
 public final class FibresTest {
@@ -6,6 +7,8 @@ public final class FibresTest {
         promise30Fibre();
         promise31LoadEvenly();
         promise31LoadByNeighbours();
+        theRingCloses();
+        manyRings();
         promise32LastStraw();
         Due.end();
     }
@@ -107,6 +110,62 @@ public final class FibresTest {
         Due.is("load(60, false)", x.load(60, false), 11);
     }
 
+    /** 11 is beside 0: what 0 bore goes to 11 and 1, what 11 bore to 10 and 0, and what 1 bore to 0 and 2. */
+    private static void theRingCloses() {
+        for (int broken : new int[] {0, 1, 11}) {
+            int lower = (broken + 11) % 12;
+            int higher = (broken + 1) % 12;
+            // By 5 each, 2 go down and 3 go up.
+            Seepwork x = withStrengths(99);
+            x.fibre(broken, 4);
+            x.fibre(lower, 7);
+            x.fibre(higher, 8);
+            Due.is("load(60, true), where " + broken + " breaks", x.load(60, true), 1);
+            // What breaks behind it must find the other side strong enough.
+            x.fibre(lower, 6);
+            x.fibre(higher, 99);
+            Due.is("load(60, true), where " + lower + " breaks too", x.load(60, true), 2);
+            x.fibre(lower, 99);
+            x.fibre(higher, 7);
+            Due.is("load(60, true), where " + higher + " breaks too", x.load(60, true), 2);
+        }
+        // 11 and 0 break together: 11 gives to 10 and 1, and so does 0.
+        Seepwork x = withStrengths(99);
+        x.fibre(11, 4);
+        x.fibre(0, 4);
+        x.fibre(10, 5 + 2 + 2);
+        x.fibre(1, 5 + 3 + 3);
+        Due.is("load(60, true), where 11 and 0 break", x.load(60, true), 2);
+        x.fibre(10, 5 + 2 + 2 - 1);
+        x.fibre(1, 99);
+        Due.is("load(60, true), where 10 breaks too", x.load(60, true), 3);
+        x.fibre(10, 99);
+        x.fibre(1, 5 + 3 + 3 - 1);
+        Due.is("load(60, true), where 1 breaks too", x.load(60, true), 3);
+    }
+
+    /** Many rings and loads, against the second program. */
+    private static void manyRings() {
+        Random random = new Random(31);
+        for (int ring = 0; ring < 400; ring++) {
+            int most = ring % 4 == 0 ? 1000 : 5 + random.nextInt(60);
+            Seepwork x = new Seepwork();
+            Model model = new Model();
+            for (int fibre = 0; fibre < 12; fibre++) {
+                int strength = 1 + random.nextInt(most);
+                x.fibre(fibre, strength);
+                model.fibre(fibre, strength);
+            }
+            for (int i = 0; i < 100; i++) {
+                int load = random.nextInt(12 * most + 12);
+                for (boolean isLocal : new boolean[] {false, true}) {
+                    String shown = "ring " + ring + ": load(" + load + ", " + isLocal + ")";
+                    Due.is(shown, x.load(load, isLocal), model.load(load, isLocal));
+                }
+            }
+        }
+    }
+
     /** How many FIBRES break by each load, tried with as many objects as are needed, each for 400 loads. */
     private static int[] broken(int[] strengths, boolean isLocal, int most) {
         int[] broken = new int[most + 1];
@@ -162,10 +221,21 @@ public final class FibresTest {
             lastStrawIs(strengths, true);
         }
         aGreaterLoadMayBreakFewer();
+        greaterLoadsAreNotAsked();
+    }
+
+    /** By 4 each the FIBRES break one after another all around; by 5 each both 0 and 1 break at once, and all ends at 11. */
+    private static void aGreaterLoadMayBreakFewer() {
+        Seepwork x = withStrengths(1, 4, 20, 10, 9, 18, 5, 9, 7, 5, 9, 5);
+        Due.is("load(47, true)", x.load(47, true), 3);
+        Due.is("load(48, true)", x.load(48, true), 12);
+        Due.is("load(59, true)", x.load(59, true), 12);
+        Due.is("load(60, true)", x.load(60, true), 3);
+        Due.is("lastStraw(true)", x.lastStraw(true), 47);
     }
 
     /** The least load of all counts, though some greater ones leave FIBRES whole: such rings are searched for. */
-    private static void aGreaterLoadMayBreakFewer() {
+    private static void greaterLoadsAreNotAsked() {
         long z = 1;
         int found = 0;
         for (int i = 0; i < 3000 && found < 3; i++) {

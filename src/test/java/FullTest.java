@@ -134,18 +134,14 @@ public final class FullTest {
 
     private static void allTrees() {
         Seepwork x = new Seepwork();
-        for (int i = 0; i < 20; i++) {
-            x.grow(200);
-        }
+        Start.growAll(x);
         Due.is("count(1)", x.count(1), 36);
         Due.is("grow(1), where all stand", x.grow(1), 36);
         Due.is("lightning(0)", x.lightning(0), 36);
         Due.is("count(1)", x.count(1), 0);
         Due.is("lightning(0) again", x.lightning(0), 0);
         Due.is("grow(1)", x.grow(1), 1);
-        for (int i = 0; i < 20; i++) {
-            x.grow(200);
-        }
+        Start.growAll(x);
         Due.is("count(1)", x.count(1), 36);
         Due.is("strike(36)", x.strike(36), 36);
         Due.is("count(1) behind strike(36)", x.count(1), 0);

@@ -5,10 +5,11 @@ import java.util.Random;
  * An argument tells how many runs, if more than a few are wanted.
  */
 public final class ModelTest {
-    private static final int RUNS = 20;
+    private static final int RUNS = 40;
     private static final int CALLS = 512;
     // A NAME is wiped, typed and measured by so many calls at most.
     private static final int MOST_CALLS_AT_ONCE = 6;
+    private static final int CALLS_AT_THE_END = 60 + 12 + 5 * 36;
     private static final int KINDS_OF_CALLS = 37;
     private static final String[] NAMES = {"many", "size", "span", "cut", "red", "way", "x"};
 
@@ -26,15 +27,20 @@ public final class ModelTest {
     private ModelTest(long seed) {
         random = new Random(seed);
         // Few NUMBERS make many ties, many make few.
-        evenness = new int[] {1, 50, 250, 999}[(int) (seed % 4)];
+        evenness = new int[] {1, 50, 250, 999}[(int) (seed / 2 % 4)];
     }
 
     public static void main(String[] args) {
         int runs = args.length == 1 ? Integer.parseInt(args[0]) : RUNS;
         for (int run = 0; run < runs; run++) {
             ModelTest test = new ModelTest(run);
-            while (test.calls + MOST_CALLS_AT_ONCE <= CALLS) {
+            // Each other run is a long one; the rest ask for all that is left in the end.
+            int most = run % 2 == 0 ? CALLS : CALLS - CALLS_AT_THE_END;
+            while (test.calls + MOST_CALLS_AT_ONCE <= most) {
                 test.askOnce(run);
+            }
+            if (run % 2 == 1) {
+                test.askForAll(run);
             }
         }
         Due.end();
@@ -51,6 +57,27 @@ public final class ModelTest {
             askOfTimesAndWoods(which);
         } else {
             askOfTheRest(which);
+        }
+    }
+
+    /** A SITE that becomes SHUT loses its TREE and its oil, so how many are left tells whether it had them. */
+    private void askForAll(int run) {
+        call = new StringBuilder("run " + run + ", in the end: ");
+        for (int i = 0; i < 60; i++) {
+            int bond = i;
+            compare(() -> work.numberOf(0, bond), () -> model.numberOf(0, bond));
+        }
+        for (int i = 0; i < 12; i++) {
+            int fibre = i;
+            compare(() -> work.fibre(fibre, 1), () -> model.fibre(fibre, 1));
+        }
+        for (int i = 0; i < 36; i++) {
+            int site = i;
+            compare(() -> work.site(site, 0), () -> model.site(site, 0));
+            compare(() -> bit(work.wet(site, false)), () -> bit(model.wet(site, false)));
+            compare(() -> bit(work.shut(site, true)), () -> bit(model.shut(site, true)));
+            compare(() -> work.count(1), () -> model.count(1));
+            compare(() -> work.count(3), () -> model.count(3));
         }
     }
 

@@ -32,9 +32,12 @@ final class Row {
             return value >= least && value <= most;
         }
 
-        /** The bounds, what is next to them on both sides, and the farthest values that there are. */
+        /** The bounds, what is next to them on both sides, one between them, and the farthest values that there are. */
         TreeSet<Integer> trials() {
-            TreeSet<Integer> trials = new TreeSet<>(List.of(Integer.MIN_VALUE, Integer.MAX_VALUE));
+            TreeSet<Integer> trials = new TreeSet<>();
+            trials.add(Integer.MIN_VALUE);
+            trials.add(Integer.MAX_VALUE);
+            trials.add((least + most) / 2);
             for (int step = -1; step <= 1; step++) {
                 trials.add(least + step);
                 trials.add(most + step);

@@ -7,6 +7,10 @@ public final class SitesAndBondsTest {
         promise4Site();
         promise5NumberOf();
         promise6Shut();
+        nothingLeadsOverAShutOne();
+        nothingGoesToAShutOne();
+        aShutOneKeepsItsNumber();
+        whatAStruckOneHadIsGone();
         promise7Strike();
         Due.end();
     }
@@ -196,6 +200,111 @@ public final class SitesAndBondsTest {
         Due.is("shut(35, true)", x.shut(35, true), false);
         Due.noSuch(x, "shut(-1, true)", () -> x.shut(-1, true));
         Due.noSuch(x, "shut(36, false)", () -> x.shut(36, false));
+    }
+
+    /** One row, or one column, is all that is not SHUT, and each of its SITES in turn becomes SHUT for a while. */
+    private static void nothingLeadsOverAShutOne() {
+        for (int line = 0; line < 6; line++) {
+            for (int gap = 0; gap < 6; gap++) {
+                lineIsBarred(line, gap, false);
+                lineIsBarred(line, gap, true);
+            }
+        }
+    }
+
+    private static int siteOfLine(int line, int place, boolean isDown) {
+        return isDown ? 6 * place + line : 6 * line + place;
+    }
+
+    private static void lineIsBarred(int line, int gap, boolean isDown) {
+        Seepwork x = new Seepwork();
+        x.strike(36);
+        for (int place = 0; place < 6; place++) {
+            x.shut(siteOfLine(line, place, isDown), place == gap);
+        }
+        lineIs(x, line, isDown, false);
+        x.shut(siteOfLine(line, gap, isDown), false);
+        lineIs(x, line, isDown, true);
+        x.shut(siteOfLine(line, gap, isDown), true);
+        lineIs(x, line, isDown, false);
+    }
+
+    private static void lineIs(Seepwork x, int line, boolean isDown, boolean isWhole) {
+        String shown = "line " + line + (isDown ? " down, " : " across, ");
+        int first = siteOfLine(line, 0, isDown);
+        int last = siteOfLine(line, 5, isDown);
+        for (int kind = 0; kind <= 2; kind++) {
+            Due.is(shown + "edge()", x.edge(kind, isDown), isWhole ? 1 : -1);
+            Due.is(shown + "edgeAnew()", x.edgeAnew(kind, isDown), isWhole ? 1 : -1);
+            Due.is(shown + "edge() the other way", x.edge(kind, !isDown), -1);
+            Due.is(shown + "edgeAnew() the other way", x.edgeAnew(kind, !isDown), -1);
+            Due.is(shown + "spans()", x.spans(kind, 1000, isDown), isWhole);
+            boolean isAcross = isWhole && !isDown;
+            Due.is(shown + "ways()", x.ways(kind, 1000), isAcross ? 1 : 0);
+            Due.is(shown + "cut()", x.cut(kind, 1000), isAcross ? 1 : 0);
+            Due.is(shown + "red()", x.red(kind, 1000), isAcross ? 5 : 0);
+            Due.is(shown + "shortest()", x.shortest(kind, 1000), isAcross ? 5 : -1);
+            Due.is(shown + "estimate()", x.estimate(kind, 1000, 2), isAcross ? 2 : 0);
+        }
+        Due.is(shown + "time()", x.time(first, last), isWhole ? 5 : -1);
+        Due.is(shown + "ball()", x.ball(last, 60000) == 6, isWhole);
+    }
+
+    private static void nothingGoesToAShutOne() {
+        // 25 is where the first TREE would grow.
+        Seepwork x = new Seepwork();
+        x.shut(25, true);
+        x.wet(24, true);
+        Due.is("grow(1) at a SHUT one", x.grow(1), 0);
+        Due.is("filled(1, 0) beside a SHUT one", x.filled(1, 0), 35);
+        Due.is("drain(1) beside a SHUT one", x.drain(1), 35);
+        for (int n = 0; n <= 34; n++) {
+            Due.is("invade(24, " + n + ") is not SHUT", x.invade(24, n) != 25, true);
+        }
+        Due.is("invade(24, 35)", x.invade(24, 35), -1);
+        Due.badState(x, "wet(25, true)", () -> x.wet(25, true));
+        x.shut(25, false);
+        Due.is("filled(1, 0) where none is SHUT any more", x.filled(1, 0), 36);
+        Due.is("wet(25, true)", x.wet(25, true), false);
+        // Oil is all around what became open, so its water hangs on nothing.
+        Due.is("drain(1) around 25", x.drain(1), 35);
+        Due.is("trapped(false)", x.trapped(false), 1);
+        Due.is("invade(24, 35) is one", x.invade(24, 35) != -1, true);
+        int rounds = 0;
+        while (x.lightning(25) == 0 && rounds < 300) {
+            x.grow(1);
+            rounds++;
+        }
+        Due.is("a TREE grows at 25 in the end", rounds < 300, true);
+    }
+
+    private static void aShutOneKeepsItsNumber() {
+        Seepwork x = new Seepwork();
+        x.site(8, 321);
+        x.shut(8, true);
+        Due.is("site(8, 322) of a SHUT one", x.site(8, 322), 321);
+        x.seed(6);
+        Seepwork y = new Seepwork();
+        y.seed(6);
+        x.shut(8, false);
+        Due.isText("NUMBERS drawn while one is SHUT", Probe.of(x), Probe.of(y));
+    }
+
+    private static void whatAStruckOneHadIsGone() {
+        // 7 is the first one in rank.
+        Seepwork x = new Seepwork();
+        x.drain(1);
+        x.wet(7, true);
+        Start.growAll(x);
+        Due.is("strike(1)", x.strike(1), 1);
+        Due.is("count(1) behind strike(1)", x.count(1), 35);
+        Due.is("count(2) behind strike(1)", x.count(2), 0);
+        Due.is("count(3) behind strike(1)", x.count(3), 35);
+        Due.is("shut(7, false)", x.shut(7, false), true);
+        Due.is("count(1) behind shut(7, false)", x.count(1), 35);
+        Due.is("lightning(7)", x.lightning(7), 0);
+        Due.is("wet(7, false)", x.wet(7, false), false);
+        Due.is("trapped(false), 7 alone", x.trapped(false), 1);
     }
 
     private static void promise7Strike() {

@@ -60,9 +60,7 @@ enum Start {
             for (int site = 0; site < 36; site++) {
                 x.wet(site, true);
             }
-            for (int i = 0; i < 20; i++) {
-                x.grow(200);
-            }
+            growAll(x);
             x.drain(1);
             typeName(x, "measures");
         }
@@ -94,6 +92,13 @@ enum Start {
         Seepwork x = new Seepwork();
         prepare(x);
         return x;
+    }
+
+    /** Lets TREES grow until one stands on each SITE that is not SHUT. */
+    static void growAll(Seepwork x) {
+        for (int i = 0; i < 20; i++) {
+            x.grow(200);
+        }
     }
 
     static void typeName(Seepwork x, String name) {

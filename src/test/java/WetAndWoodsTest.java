@@ -154,9 +154,7 @@ public final class WetAndWoodsTest {
     private static void promise29Lightning() {
         Seepwork x = new Seepwork();
         Due.is("lightning(3)", x.lightning(3), 0);
-        for (int i = 0; i < 20; i++) {
-            x.grow(200);
-        }
+        Start.growAll(x);
         Due.is("count(1)", x.count(1), 36);
         for (int column = 0; column < 6; column++) {
             x.shut(12 + column, true);
