@@ -197,6 +197,16 @@ public final class SentencesTo16Test {
         });
     }
 
+    /** All is SHUT but these SITES. */
+    private static Seepwork withOnly(int... sites) {
+        Seepwork x = new Seepwork();
+        x.strike(36);
+        for (int site : sites) {
+            x.shut(site, false);
+        }
+        return x;
+    }
+
     private static void struckAre(Seepwork x, int... due) {
         for (int site : due) {
             x.strike(1);
@@ -224,13 +234,14 @@ public final class SentencesTo16Test {
             Due.is("strike(1), where none is left", x.strike(1), 36);
         });
         DOCUMENT.of(7, "the SITE that is not SHUT with the most that are not SHUT beside it", () -> {
-            // 21 alone has four beside it when 7 to 28 are bare at one side each.
-            Seepwork x = new Seepwork();
-            x.strike(36);
-            for (int site : new int[] {0, 1, 15, 20, 21, 22, 27}) {
-                x.shut(site, false);
-            }
-            struckAre(x, 21, 0);
+            // 21 has four beside it, and then none has more than 0 and 1 have.
+            struckAre(withOnly(0, 1, 15, 20, 21, 22, 27), 21, 0);
+        });
+        DOCUMENT.of(7, "the most that are not SHUT beside it", () -> {
+            // Two beside 29, above and below it, are more than one to the right of 0, or to the left of 1.
+            struckAre(withOnly(0, 1, 23, 29, 35), 29, 0);
+            // Two beside 34, to the left and the right of it, are more than one below 0, or above 6.
+            struckAre(withOnly(0, 6, 33, 34, 35), 34, 0);
         });
         DOCUMENT.of(7, "of several the lowest", () -> {
             // All within the border have four; behind 7 those beside it have three, so 9 is next, then 14.
@@ -430,11 +441,7 @@ public final class SentencesTo16Test {
         });
         DOCUMENT.of(13, "they may share SITES", () -> {
             // Ways by the rows 2 and 3 cross at 15: one from 14 down to 21, one from 9 on to 16.
-            Seepwork x = new Seepwork();
-            x.strike(36);
-            for (int site : new int[] {6, 7, 8, 9, 12, 13, 14, 15, 16, 17, 21, 22, 23}) {
-                x.shut(site, false);
-            }
+            Seepwork x = withOnly(6, 7, 8, 9, 12, 13, 14, 15, 16, 17, 21, 22, 23);
             for (int bond = 0; bond < 60; bond++) {
                 x.bond(bond, 900);
             }
