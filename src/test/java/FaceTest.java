@@ -1,11 +1,16 @@
+import java.io.IOException;
 import java.lang.reflect.Constructor;
 import java.lang.reflect.Field;
 import java.lang.reflect.Method;
 import java.lang.reflect.Modifier;
+import java.util.ArrayList;
 import java.util.Arrays;
+import java.util.List;
 import java.util.TreeSet;
+import java.util.regex.Matcher;
+import java.util.regex.Pattern;
 
-/** The public face: what the document lists, with its exceptions, and nothing else. */
+/** The public face: what the document lists, with its exceptions, and nothing else; and the words ahead of it. */
 public final class FaceTest {
     private static final String INDEX = "java.lang.IndexOutOfBoundsException";
     private static final String ARGUMENT = "java.lang.IllegalArgumentException";
@@ -26,11 +31,18 @@ public final class FaceTest {
         "int wipe()", "int measure(int,int) A S", "int count(int) A",
     };
 
-    public static void main(String[] args) {
+    public static void main(String[] args) throws IOException {
         constants();
         methods();
         constructor();
         nestedClasses();
+        List<String> document = Sentences.linesOfDocument();
+        if (!document.isEmpty()) {
+            Source source = new Source();
+            headsAreAsListed(document, source);
+            partsAreAsTold(document, source);
+            commentsAreThePromises(document, source);
+        }
         Due.end();
     }
 
@@ -101,11 +113,81 @@ public final class FaceTest {
             Due.is(one.getName() + " is static", Modifier.isStatic(modifiers), true);
             Due.is(one.getName() + " is public", Modifier.isPublic(modifiers), false);
             Due.is(one.getName() + " is protected", Modifier.isProtected(modifiers), false);
-            int count = 0;
-            for (Field field : one.getDeclaredFields()) {
-                count += Modifier.isStatic(field.getModifiers()) ? 0 : 1;
-            }
-            Due.is(one.getName() + " has at most twenty fields", count <= 20, true);
         }
+    }
+
+    private static String inOneLine(String text) {
+        return text.replaceAll("\\s+", " ").trim();
+    }
+
+    /** The document's lines stand in the source in the same order, with the same names of parameters. */
+    private static void headsAreAsListed(List<String> document, Source source) {
+        List<String> due = new ArrayList<>();
+        for (String line : document) {
+            if (line.startsWith("public final class ") || line.startsWith("    public ")) {
+                due.add(line.replaceAll("[;{]\\s*$", "").trim());
+            }
+        }
+        List<String> got = new ArrayList<>();
+        Matcher matcher = Pattern.compile("(?m)^ *public [^;{]*").matcher(source.code);
+        while (matcher.find()) {
+            got.add(inOneLine(matcher.group()));
+        }
+        Due.is("how many lines the document lists", due.size(), 1 + 2 + 1 + METHODS.length);
+        for (int i = 0; i < Math.max(got.size(), due.size()); i++) {
+            String one = i < got.size() ? got.get(i) : "nothing";
+            Due.isText("the line " + i + " of the face", one, i < due.size() ? due.get(i) : "nothing");
+        }
+    }
+
+    /** Ahead of the calls of a part its name stands, as the document has it. */
+    private static void partsAreAsTold(List<String> document, Source source) {
+        int parts = 0;
+        for (String line : document) {
+            Matcher told = Pattern.compile("Ahead of the calls (.*) the interface says: (---- .*)\\.").matcher(line);
+            if (told.matches()) {
+                parts++;
+                Due.isText("the calls behind " + told.group(2), callsBehind(told.group(2), source),
+                        told.group(1).replace("`", ""));
+            }
+        }
+        Due.is("how many parts the document tells", parts, 8);
+    }
+
+    private static String callsBehind(String part, Source source) {
+        int begin = source.text.indexOf("    // " + part + "\n");
+        int end = source.text.indexOf("    // ----", begin + 1);
+        StringBuilder calls = new StringBuilder();
+        Matcher matcher = Pattern.compile("(?m)^    public \\w+ (\\w+)\\(").matcher(source.code);
+        while (matcher.find()) {
+            if (begin >= 0 && matcher.start() > begin && matcher.start() < end) {
+                calls.append(calls.length() == 0 ? "" : ", ").append(matcher.group(1));
+            }
+        }
+        return calls.toString();
+    }
+
+    /** The comment ahead of each method is what the document promises of it. */
+    private static void commentsAreThePromises(List<String> document, Source source) {
+        int promises = 0;
+        for (String line : document) {
+            Matcher promise = Pattern.compile("`([^`]*)`: (.*)").matcher(line);
+            if (promise.matches()) {
+                promises++;
+                String head = promise.group(1).equals("Seepwork()") ? "public Seepwork()" : "public " + promise.group(1);
+                Due.isText("the comment of " + head, commentOf(head, source), inOneLine(promise.group(2)));
+            }
+        }
+        Due.is("how many promises the document has", promises, 1 + METHODS.length);
+    }
+
+    private static String commentOf(String head, Source source) {
+        Matcher matcher = Pattern.compile("(?s)/\\*\\*((?:(?!\\*/).)*)\\*/\\s*(public [^;{]*)\\{").matcher(source.text);
+        while (matcher.find()) {
+            if (inOneLine(matcher.group(2)).equals(head)) {
+                return inOneLine(matcher.group(1).replaceAll("\n *\\*", "\n"));
+            }
+        }
+        return "none";
     }
 }

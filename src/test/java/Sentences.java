@@ -23,7 +23,7 @@ final class Sentences {
         lines = linesOfDocument();
     }
 
-    private static List<String> linesOfDocument() {
+    static List<String> linesOfDocument() {
         try {
             return Files.readAllLines(DOCUMENT);
         } catch (IOException e) {

@@ -1,6 +1,6 @@
 /** Objects to begin with: each is made anew by the same few calls, so that two of them are alike. */
 enum Start {
-    NEW {
+    NEW(0) {
         @Override
         void prepare(Seepwork x) {
             // It is as it was made.
@@ -13,7 +13,7 @@ enum Start {
     },
 
     /** Some of everything. */
-    MIXED {
+    MIXED(13) {
         @Override
         void prepare(Seepwork x) {
             x.seed(777);
@@ -40,7 +40,7 @@ enum Start {
         }
     },
 
-    ALL_SHUT {
+    ALL_SHUT(2) {
         @Override
         void prepare(Seepwork x) {
             x.seed(31);
@@ -54,7 +54,7 @@ enum Start {
     },
 
     /** Everything that can be full: TREES, WET SITES and oil everywhere, and 8 letters. */
-    FULL {
+    FULL(65) {
         @Override
         void prepare(Seepwork x) {
             for (int site = 0; site < 36; site++) {
@@ -75,6 +75,13 @@ enum Start {
             return true;
         }
     };
+
+    /** How many calls it takes to prepare it. */
+    final int calls;
+
+    Start(int calls) {
+        this.calls = calls;
+    }
 
     abstract void prepare(Seepwork x);
 
