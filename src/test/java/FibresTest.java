@@ -8,6 +8,7 @@ public final class FibresTest {
         promise31LoadEvenly();
         promise31LoadByNeighbours();
         theRingCloses();
+        oneAfterAnother();
         manyRings();
         promise32LastStraw();
         Due.end();
@@ -144,6 +145,26 @@ public final class FibresTest {
         Due.is("load(60, true), where 1 breaks too", x.load(60, true), 3);
     }
 
+    /** All twelve break one by one; where one of them is stronger by 1, it is the first one that holds. */
+    private static void oneAfterAnother() {
+        // 1000 divided by 12, by 11, and so on, each less 1.
+        oneByOne(1000, false, 82, 89, 99, 110, 124, 141, 165, 199, 249, 332, 499, 999);
+        // 0 bears 50, 1 then 75, 2 then 88, and so on; 11 gets the lower halves of all, and bears 600 at last.
+        oneByOne(600, true, 49, 74, 87, 93, 96, 98, 99, 99, 99, 99, 99, 599);
+    }
+
+    private static void oneByOne(int load, boolean isLocal, int... strengths) {
+        Due.is("load(" + load + ", " + isLocal + ")", withStrengths(strengths).load(load, isLocal), 12);
+        for (int fibre = 0; fibre < 12; fibre++) {
+            Seepwork x = withStrengths(strengths);
+            x.fibre(fibre, strengths[fibre] + 1);
+            Due.is("load(" + load + ", " + isLocal + ") where " + fibre + " holds", x.load(load, isLocal), fibre);
+            for (int i = 0; i < 12; i++) {
+                Due.is("the STRENGTH of " + i + " behind it", x.fibre(i, 1), strengths[i] + (i == fibre ? 1 : 0));
+            }
+        }
+    }
+
     /** Many rings and loads, against the second program. */
     private static void manyRings() {
         Random random = new Random(31);
@@ -151,10 +172,11 @@ public final class FibresTest {
             int most = ring % 4 == 0 ? 1000 : 5 + random.nextInt(60);
             Seepwork x = new Seepwork();
             Model model = new Model();
+            int[] strengths = new int[12];
             for (int fibre = 0; fibre < 12; fibre++) {
-                int strength = 1 + random.nextInt(most);
-                x.fibre(fibre, strength);
-                model.fibre(fibre, strength);
+                strengths[fibre] = 1 + random.nextInt(most);
+                x.fibre(fibre, strengths[fibre]);
+                model.fibre(fibre, strengths[fibre]);
             }
             for (int i = 0; i < 100; i++) {
                 int load = random.nextInt(12 * most + 12);
@@ -162,6 +184,9 @@ public final class FibresTest {
                     String shown = "ring " + ring + ": load(" + load + ", " + isLocal + ")";
                     Due.is(shown, x.load(load, isLocal), model.load(load, isLocal));
                 }
+            }
+            for (int fibre = 0; fibre < 12; fibre++) {
+                Due.is("the STRENGTH of " + fibre + " behind many loads", x.fibre(fibre, 1), strengths[fibre]);
             }
         }
     }

@@ -44,6 +44,7 @@ public final class LifeTest {
             for (Row[] part : Rows.ALL) {
                 for (Row row : part) {
                     test.lastCallIsAsTheFirst(row);
+                    test.oneQuestionAllAlong(row);
                 }
             }
             for (int i = 0; i < 20; i++) {
@@ -87,6 +88,22 @@ public final class LifeTest {
         Seepwork x = start.make();
         idle(x, CALLS - 1 - start.calls);
         Due.is("as the call 512, " + row.shown(start, a), row.call.on(x, a), row.call.on(start.make(), a));
+    }
+
+    /** One object is asked nothing else, and answers as objects do that are asked for the first time. */
+    private void oneQuestionAllAlong(Row row) {
+        List<int[]> asked = new ArrayList<>();
+        for (Idle one : questions) {
+            if (one.row == row) {
+                asked.add(one.a);
+            }
+        }
+        Seepwork x = start.make();
+        for (int i = 0; i < CALLS - start.calls && !asked.isEmpty(); i++) {
+            int[] a = asked.get(i % asked.size());
+            Due.is("as the call " + (start.calls + i + 1) + ", " + row.shown(start, a), row.call.on(x, a),
+                    row.call.on(start.make(), a));
+        }
     }
 
     private void stateStays() {

@@ -186,6 +186,15 @@ public final class SentencesTo16Test {
             Seepwork y = Start.ALL_SHUT.make();
             y.shut(0, true);
             Due.isText("the state behind shut(0, true)", Probe.of(y), Probe.of(Start.ALL_SHUT.make()));
+            // NUMBERS stay, and so does all at other SITES.
+            Seepwork z = Start.MIXED.make();
+            int before = z.site(14, 777);
+            z.shut(14, true);
+            Due.is("site(14, ..), where it is SHUT", z.site(14, 778), 777);
+            z.shut(14, false);
+            Due.is("site(14, ..), where it is not", z.site(14, before), 778);
+            z.wet(14, true);
+            Due.isText("the state behind all that", Probe.of(z), Probe.of(Start.MIXED.make()));
         });
         DOCUMENT.of(6, "@return whether it was SHUT", () -> {
             Seepwork x = new Seepwork();
@@ -459,6 +468,18 @@ public final class SentencesTo16Test {
         });
     }
 
+    /** These BONDS have the NUMBER 0, and all others 900. */
+    private static Seepwork withBonds(int... bonds) {
+        Seepwork x = new Seepwork();
+        for (int bond = 0; bond < 60; bond++) {
+            x.bond(bond, 900);
+        }
+        for (int bond : bonds) {
+            x.bond(bond, 0);
+        }
+        return x;
+    }
+
     private static void cut() {
         DOCUMENT.of(14, "Returns how many OPEN BONDS have to be lost at least, so that there is no span across.", () -> {
             for (int kind = 0; kind <= 2; kind++) {
@@ -470,6 +491,11 @@ public final class SentencesTo16Test {
             x.bond(12, 900);
             Due.is("cut() through one BOND", x.cut(BONDS, 900), 1);
             Due.is("cut() through two", x.cut(BONDS, 901), 2);
+            // Two ways from the left column meet at 13, and all go up from there to 7.
+            Due.is("cut() where it leads up", withOnly(7, 8, 9, 10, 11, 12, 13, 18, 19).cut(BONDS, 1), 1);
+            // Two meet at 14, from 20 and from 15, and all go to the left from there to 13, then up to 7.
+            Seepwork back = withBonds(15, 16, 44, 20, 21, 22, 51, 45, 12, 11, 37, 6, 7, 8, 9);
+            Due.is("cut() where it leads back", back.cut(BONDS, 1), 1);
             for (int seed = 0; seed < 40; seed++) {
                 Seepwork drawn = new Seepwork();
                 drawn.seed(seed);
@@ -522,6 +548,11 @@ public final class SentencesTo16Test {
             x.shut(18, true);
             x.shut(23, true);
             Due.is("shortest() around 15", x.shortest(BONDS, 1), 7);
+            // 11 and 17 are farther than 5, and so are 0 and 6 than 12: the nearest of several counts.
+            Seepwork several = withOnly(0, 1, 2, 3, 4, 5, 11, 17);
+            Due.is("shortest() to the nearest of several", several.shortest(BONDS, 1), 5);
+            Due.is("shortest() from the nearest of several",
+                    withOnly(0, 6, 12, 13, 14, 15, 16, 17, 23).shortest(BONDS, 1), 5);
         });
         DOCUMENT.range(16, KIND, BAD_ARGUMENT, 0, 2, (x, kind) -> x.shortest(kind, 5));
         DOCUMENT.range(16, THRESHOLD, BAD_ARGUMENT, 0, 1000, (x, p) -> x.shortest(BOTH, p));

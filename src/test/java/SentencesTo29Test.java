@@ -473,13 +473,22 @@ public final class SentencesTo29Test {
 
     private static void grow() {
         DOCUMENT.of(28, "Lets TREES grow by draws.", () -> {
-            Seepwork once = new Seepwork();
-            once.grow(90);
-            Seepwork often = new Seepwork();
-            for (int i = 0; i < 90; i++) {
-                often.grow(1);
+            // Both ends of what a call may draw, and what is between: Probe tells where the next draw falls.
+            for (int n : new int[] {1, 2, 99, 170}) {
+                Seepwork once = new Seepwork();
+                once.grow(n);
+                Seepwork often = new Seepwork();
+                for (int i = 0; i < n; i++) {
+                    often.grow(1);
+                }
+                Due.isText("the state behind grow(" + n + ")", Probe.of(once), Probe.of(often));
             }
-            Due.isText("the state behind grow(90)", Probe.of(once), Probe.of(often));
+            Seepwork most = new Seepwork();
+            most.grow(200);
+            Seepwork twice = new Seepwork();
+            twice.grow(103);
+            twice.grow(97);
+            Due.isText("the state behind grow(200)", Probe.of(most), Probe.of(twice));
         });
         DOCUMENT.range(28, "@param n 1 to 200 draws", BAD_N, 1, 200, (x, n) -> x.grow(n));
         DOCUMENT.of(28, "@return how many TREES stand then", () -> {

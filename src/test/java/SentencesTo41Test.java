@@ -346,6 +346,20 @@ public final class SentencesTo41Test {
         Due.is("measure(BONDS, 1000) by " + name, named(name).measure(BONDS, 1000), byAll);
     }
 
+    private static void measuresAreAsTold(int kind, int p) {
+        Seepwork x = new Seepwork();
+        x.seed(12);
+        x.shut(8, true);
+        String[] names = {"many", "size", "span", "cut", "red", "way"};
+        int[] told = {x.sizes(kind, p, 0), x.sizes(kind, p, 1), x.spans(kind, p, false) ? 1 : 0, x.cut(kind, p),
+            x.red(kind, p), x.shortest(kind, p)};
+        for (int i = 0; i < names.length; i++) {
+            Start.typeName(x, names[i]);
+            Due.is("measure(" + kind + ", " + p + ") by " + names[i], x.measure(kind, p), told[i]);
+            x.wipe();
+        }
+    }
+
     private static void measure() {
         DOCUMENT.of(40, "Takes the measure that has the NAME.", () -> {
             measureIs("many", 36, 31, 26, 1);
@@ -372,6 +386,11 @@ public final class SentencesTo41Test {
                 boolean isWay = name.equals("way");
                 Due.is("measure(SITES, 0) by " + name, x.measure(Seepwork.SITES, 0), isWay ? NONE : 0);
                 Due.is("measure(BOTH, 0) by " + name, x.measure(BOTH, 0), isWay ? NONE : 0);
+            }
+            for (int kind = 0; kind <= 2; kind++) {
+                for (int p = 300; p <= 900; p += 75) {
+                    measuresAreAsTold(kind, p);
+                }
             }
         });
         DOCUMENT.of(40, "@throws IllegalStateException if no measure has the NAME", () -> {

@@ -468,6 +468,9 @@ public final class TermsSentencesTest {
         says("To go over a BOND whose SITES both are not SHUT takes as much as its NUMBER and 1, together.", () -> {
             Seepwork x = withOnly(14, 15);
             Due.is("time(14, 15)", x.time(14, 15), 1);
+            x.site(14, 500);
+            x.site(15, 999);
+            Due.is("time(14, 15), as NUMBERS of SITES do not count", x.time(14, 15), 1);
             x.bond(12, 999);
             Due.is("time(14, 15)", x.time(14, 15), 1000);
             Due.is("time(15, 14)", x.time(15, 14), 1000);

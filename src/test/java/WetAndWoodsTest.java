@@ -66,6 +66,27 @@ public final class WetAndWoodsTest {
         }
         Due.outOfRange(z, "filled(1, -1)", () -> z.filled(1, -1));
         Due.outOfRange(z, "filled(1, 2)", () -> z.filled(1, 2));
+        manyRounds();
+    }
+
+    private static Seepwork withShutAndWet(int[] shut, int[] wet) {
+        Seepwork x = new Seepwork();
+        for (int site : shut) {
+            x.shut(site, true);
+        }
+        for (int site : wet) {
+            x.wet(site, true);
+        }
+        return x;
+    }
+
+    /** As many rounds as were ever found: by a need of 1 along a winding way, by greater ones through gaps. */
+    private static void manyRounds() {
+        int[] walls = {2, 7, 10, 13, 15, 16, 19, 22, 26, 27};
+        filledIs(withShutAndWet(walls, new int[] {1}), 1, 26, 23);
+        filledIs(withShutAndWet(new int[] {5, 19, 28}, new int[] {0, 4, 8, 11, 18, 25, 29, 34}), 2, 33, 23);
+        int[] wet = {0, 2, 3, 4, 6, 7, 11, 12, 13, 15, 17, 18, 21, 23, 24, 26, 29, 30, 32, 33, 34};
+        filledIs(withShutAndWet(new int[] {5, 35}, wet), 3, 34, 12);
     }
 
     private static void leastWetIs(int w, int h, int... due) {
