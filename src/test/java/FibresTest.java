@@ -32,6 +32,14 @@ public final class FibresTest {
         }
         Due.is("fibre(0, 1)", x.fibre(0, 1), 1000);
         Due.is("fibre(0, 1)", x.fibre(0, 1), 1);
+        for (int fibre = 0; fibre < 12; fibre++) {
+            Seepwork y = null;
+            for (int strength = 1; strength <= 1000; strength++) {
+                boolean isNew = strength % 500 == 1;
+                y = isNew ? new Seepwork() : y;
+                Due.is("fibre(" + fibre + ", " + strength + ")", y.fibre(fibre, strength), isNew ? 100 : strength - 1);
+            }
+        }
         Due.noSuch(x, "fibre(-1, 1)", () -> x.fibre(-1, 1));
         Due.noSuch(x, "fibre(12, 1)", () -> x.fibre(12, 1));
         Due.noSuch(x, "fibre(12, 0)", () -> x.fibre(12, 0));

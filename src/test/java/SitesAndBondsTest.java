@@ -12,6 +12,7 @@ public final class SitesAndBondsTest {
         aShutOneKeepsItsNumber();
         whatAStruckOneHadIsGone();
         promise7Strike();
+        everyNumberIsKept();
         Due.end();
     }
 
@@ -336,5 +337,22 @@ public final class SitesAndBondsTest {
         Due.is("shut(35, true)", y.shut(35, true), false);
         Due.outOfRange(x, "strike(-1)", () -> x.strike(-1));
         Due.outOfRange(x, "strike(37)", () -> x.strike(37));
+    }
+
+    /** Each BOND and SITE takes each NUMBER, and tells it to the next one. */
+    private static void everyNumberIsKept() {
+        for (int place = 0; place < 60; place++) {
+            // Each object is told 250 NUMBERS, of both.
+            Seepwork x = null;
+            for (int number = 0; number < 1000; number++) {
+                boolean isNew = number % 250 == 0;
+                x = isNew ? new Seepwork() : x;
+                int before = isNew ? 0 : number - 1;
+                Due.is("bond(" + place + ", " + number + ")", x.bond(place, number), before);
+                if (place < 36) {
+                    Due.is("site(" + place + ", " + number + ")", x.site(place, number), before);
+                }
+            }
+        }
     }
 }
